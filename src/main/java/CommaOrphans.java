@@ -55,16 +55,16 @@ public final class CommaOrphans {
     private static final int EITHER = -18;
     private static final int DENY = -19;
 
-    /* Kinds of tokens: below 40 these, above it a symbol's own byte. */
+    /* Kinds of tokens: these, a symbol's own byte (40 and more), or NUMBER and the number added. */
     private static final int END = 0;
     private static final int WRONG = 1;
-    private static final int NUMBER = 2;
     private static final int PAY = 3;
     private static final int WHEN = 4;
     private static final int OR = 5;
     private static final int AND = 6;
     private static final int NOT = 7;
     private static final int FIRST_ASK = 8;
+    private static final int NUMBER = 1000;
     private static final int KEYWORD = 5;
     private static final int DIGITS = 4;
     private static final String KEYWORDS =
@@ -544,11 +544,6 @@ public final class CommaOrphans {
             }
         }
 
-        void ask(int what) {
-            asked |= 1 << what;
-            emit(-1 - what);
-        }
-
         boolean asks(int what) {
             return (asked >> what & 1) != 0;
         }
@@ -612,19 +607,19 @@ public final class CommaOrphans {
                     }
                     stack[top] = op >= 0 ? op : bounds[-1 - op];
                     top++;
-                } else {
-                    if (top < 2) {
-                        return MOST_PAY;
-                    }
-                    top--;
-                    long most = op == SUBTRACT ? stack[top - 1]
-                        : op == MULTIPLY ? (long) stack[top - 1] * stack[top]
-                        : joined(op, stack[top - 1], stack[top]);
-                    if (most > SURE || stack[top] > SURE) {
-                        return MOST_PAY;
-                    }
-                    stack[top - 1] = (int) most;
+                    continue;
                 }
+                top--;
+                if (top < 1 || stack[top] > SURE) {
+                    return MOST_PAY;
+                }
+                long most = stack[top - 1];
+                long by = stack[top];
+                most = op == ADD ? most + by : op == MULTIPLY ? most * by : op == DIVIDE && by > 0 ? most / by : most;
+                if (most > SURE) {
+                    return MOST_PAY;
+                }
+                stack[top - 1] = (int) most;
             }
             return top > 0 ? Math.min(MOST_PAY, stack[0]) : MOST_PAY;
         }
@@ -639,34 +634,29 @@ public final class CommaOrphans {
                     }
                     stack[top] = op >= 0 ? op : facts[-1 - op];
                     top++;
-                } else if (op == DENY) {
-                    if (top < 1) {
-                        return 0;
-                    }
-                    stack[top - 1] = 1 - stack[top - 1];
-                } else {
-                    if (top < 2) {
-                        return 0;
-                    }
-                    top--;
-                    stack[top - 1] = joined(op, stack[top - 1], stack[top]);
+                    continue;
                 }
+                top -= op == DENY ? 0 : 1;
+                if (top < 1) {
+                    return 0;
+                }
+                int a = stack[top - 1];
+                int b = top < stack.length ? stack[top] : 0;
+                switch (op) {
+                    case ADD: a += b; break;
+                    case SUBTRACT: a -= b; break;
+                    case MULTIPLY: a *= b; break;
+                    case DIVIDE: a = b != 0 ? a / b : 0; break;
+                    case LESS: a = a < b ? 1 : 0; break;
+                    case SAME: a = a == b ? 1 : 0; break;
+                    case MORE: a = a > b ? 1 : 0; break;
+                    case BOTH: a &= b; break;
+                    case EITHER: a |= b; break;
+                    default: a = 1 - a; break;
+                }
+                stack[top - 1] = a;
             }
             return top > 0 ? stack[0] : 0;
-        }
-
-        private static int joined(int op, int a, int b) {
-            switch (op) {
-                case ADD: return a + b;
-                case SUBTRACT: return a - b;
-                case MULTIPLY: return a * b;
-                case DIVIDE: return b != 0 ? a / b : 0;
-                case LESS: return a < b ? 1 : 0;
-                case SAME: return a == b ? 1 : 0;
-                case MORE: return a > b ? 1 : 0;
-                case BOTH: return a & b;
-                default: return a | b;
-            }
         }
     }
 
@@ -676,10 +666,10 @@ public final class CommaOrphans {
         int fault;
         int faultPlace = NONE;
         private final Row tape;
-        private int next;
+        private final int[] kinds = new int[TAPE + 1];
+        private final int[] places = new int[TAPE + 1];
+        private int now;
         private int kind;
-        private int place;
-        private int value;
 
         LawReader(Row tape) {
             this.tape = tape;
@@ -689,8 +679,9 @@ public final class CommaOrphans {
             draft.wipe();
             fault = 0;
             faultPlace = NONE;
-            next = 0;
-            step();
+            split();
+            now = 0;
+            kind = kinds[0];
             for (int line = 0; line <= LINES; line++) {
                 if (kind == END) {
                     return true;
@@ -702,9 +693,84 @@ public final class CommaOrphans {
             return false;
         }
 
+        private void split() {
+            int at = 0;
+            for (int n = 0; n <= TAPE; n++) {
+                while (at < tape.length && isBlank(tape.get(at))) {
+                    at++;
+                }
+                places[n] = at;
+                kinds[n] = END;
+                if (at >= tape.length) {
+                    return;
+                }
+                int end = endOfToken(at);
+                kinds[n] = kindOf(at, end);
+                at = end;
+            }
+        }
+
+        private int endOfToken(int at) {
+            boolean word = isSmallLetter(tape.get(at));
+            boolean number = isDigit(tape.get(at));
+            int end = at + 1;
+            while (end < tape.length
+                && (word && isSmallLetter(tape.get(end)) || number && isDigit(tape.get(end)))) {
+                end++;
+            }
+            return end;
+        }
+
+        private int kindOf(int at, int end) {
+            int b = tape.get(at);
+            if (isSmallLetter(b)) {
+                return kindOfWord(at, end);
+            }
+            if (!isDigit(b)) {
+                return SYMBOLS.indexOf((char) b) >= 0 ? b : WRONG;
+            }
+            if (end - at > DIGITS) {
+                return WRONG;
+            }
+            int value = 0;
+            for (int i = at; i < end; i++) {
+                value = value * 10 + tape.get(i) - '0';
+            }
+            return NUMBER + value;
+        }
+
+        private int kindOfWord(int at, int end) {
+            if (end - at > KEYWORD) {
+                return WRONG;
+            }
+            for (int k = 0; k * KEYWORD < KEYWORDS.length(); k++) {
+                if (isKeyword(k * KEYWORD, at, end)) {
+                    return PAY + k;
+                }
+            }
+            return WRONG;
+        }
+
+        private boolean isKeyword(int from, int at, int end) {
+            for (int i = 0; i < KEYWORD && from + i < KEYWORDS.length(); i++) {
+                int here = at + i < end ? tape.get(at + i) : ' ';
+                if (KEYWORDS.charAt(from + i) != here) {
+                    return false;
+                }
+            }
+            return true;
+        }
+
+        private void step() {
+            if (now >= 0 && now < TAPE && kind != END) {
+                now++;
+                kind = kinds[now];
+            }
+        }
+
         private boolean fail(int which) {
             fault = which;
-            faultPlace = place;
+            faultPlace = now >= 0 && now < places.length ? places[now] : NONE;
             return false;
         }
 
@@ -722,7 +788,7 @@ public final class CommaOrphans {
             draft.endOfPay();
             if (kind == WHEN) {
                 step();
-                if (!readEither(0)) {
+                if (!readChoice(0)) {
                     return false;
                 }
             }
@@ -734,61 +800,36 @@ public final class CommaOrphans {
             return true;
         }
 
-        private boolean readEither(int open) {
-            if (!readBoth(open)) {
-                return false;
-            }
-            for (int n = 0; n < TAPE && kind == OR; n++) {
-                step();
-                if (!readBoth(open)) {
-                    return false;
-                }
-                draft.emit(EITHER);
-            }
-            return true;
-        }
-
-        private boolean readBoth(int open) {
-            if (!readClaim(open)) {
-                return false;
-            }
-            for (int n = 0; n < TAPE && kind == AND; n++) {
-                step();
+        /** Claims joined by and, these joined by or, inside so many ( and not that are open. */
+        private boolean readChoice(int open) {
+            boolean joined = false;
+            for (int n = 0; n < TAPE; n++) {
                 if (!readClaim(open)) {
                     return false;
                 }
-                draft.emit(BOTH);
+                for (int m = 0; m < TAPE && kind == AND; m++) {
+                    step();
+                    if (!readClaim(open)) {
+                        return false;
+                    }
+                    draft.emit(BOTH);
+                }
+                if (joined) {
+                    draft.emit(EITHER);
+                }
+                if (kind != OR) {
+                    return true;
+                }
+                joined = true;
+                step();
             }
             return true;
         }
 
         private boolean readClaim(int open) {
-            if (kind != NOT && kind != '(') {
-                return readComparison();
+            if (kind == NOT || kind == '(') {
+                return readOpening(open);
             }
-            if (open >= OPEN) {
-                return fail(FAULT_MANY);
-            }
-            boolean denied = kind == NOT;
-            step();
-            if (denied) {
-                if (!readClaim(open + 1)) {
-                    return false;
-                }
-                draft.emit(DENY);
-                return true;
-            }
-            if (!readEither(open + 1)) {
-                return false;
-            }
-            if (kind != ')') {
-                return fail(FAULT_STANDS);
-            }
-            step();
-            return true;
-        }
-
-        private boolean readComparison() {
             if (!readSum()) {
                 return false;
             }
@@ -804,41 +845,63 @@ public final class CommaOrphans {
             return true;
         }
 
-        private boolean readSum() {
-            if (!readProduct()) {
-                return false;
+        private boolean readOpening(int open) {
+            if (open >= OPEN) {
+                return fail(FAULT_MANY);
             }
-            for (int n = 0; n < TAPE && (kind == '+' || kind == '-'); n++) {
-                int op = kind == '+' ? ADD : SUBTRACT;
-                step();
-                if (!readProduct()) {
+            boolean denied = kind == NOT;
+            step();
+            if (denied) {
+                if (!readClaim(open + 1)) {
                     return false;
                 }
-                draft.emit(op);
+                draft.emit(DENY);
+                return true;
             }
+            if (!readChoice(open + 1)) {
+                return false;
+            }
+            if (kind != ')') {
+                return fail(FAULT_STANDS);
+            }
+            step();
             return true;
         }
 
-        private boolean readProduct() {
-            if (!readUnit()) {
-                return false;
-            }
-            for (int n = 0; n < TAPE && (kind == '*' || kind == '/'); n++) {
-                boolean times = kind == '*';
-                step();
-                if (times ? !readUnit() : !readDivisor()) {
+        /** Units joined by * and /, these joined by + and -. */
+        private boolean readSum() {
+            int join = 0;
+            for (int n = 0; n < TAPE; n++) {
+                if (!readUnit()) {
                     return false;
                 }
-                draft.emit(times ? MULTIPLY : DIVIDE);
+                for (int m = 0; m < TAPE && (kind == '*' || kind == '/'); m++) {
+                    boolean times = kind == '*';
+                    step();
+                    if (times ? !readUnit() : !readDivisor()) {
+                        return false;
+                    }
+                    draft.emit(times ? MULTIPLY : DIVIDE);
+                }
+                if (join != 0) {
+                    draft.emit(join);
+                }
+                if (kind != '+' && kind != '-') {
+                    return true;
+                }
+                join = kind == '+' ? ADD : SUBTRACT;
+                step();
             }
             return true;
         }
 
         private boolean readUnit() {
-            if (kind == NUMBER) {
-                draft.emit(value);
-            } else if (kind >= FIRST_ASK && kind < FIRST_ASK + ASKS) {
-                draft.ask(kind - FIRST_ASK);
+            int ask = kind - FIRST_ASK;
+            if (kind >= NUMBER) {
+                draft.emit(kind - NUMBER);
+            } else if (ask >= 0 && ask < ASKS) {
+                draft.asked |= 1 << ask;
+                draft.emit(-1 - ask);
             } else {
                 return fail(FAULT_STANDS);
             }
@@ -847,74 +910,12 @@ public final class CommaOrphans {
         }
 
         private boolean readDivisor() {
-            if (kind != NUMBER) {
-                return fail(FAULT_STANDS);
+            if (kind <= NUMBER) {
+                return fail(kind == NUMBER ? FAULT_ZERO : FAULT_STANDS);
             }
-            if (value == 0) {
-                return fail(FAULT_ZERO);
-            }
-            draft.emit(value);
+            draft.emit(kind - NUMBER);
             step();
             return true;
-        }
-
-        private void step() {
-            while (next < tape.length && isBlank(tape.get(next))) {
-                next++;
-            }
-            place = next;
-            if (next >= tape.length) {
-                kind = END;
-                return;
-            }
-            int b = tape.get(next);
-            if (isSmallLetter(b)) {
-                while (next < tape.length && isSmallLetter(tape.get(next))) {
-                    next++;
-                }
-                kind = keyword();
-            } else if (isDigit(b)) {
-                while (next < tape.length && isDigit(tape.get(next))) {
-                    next++;
-                }
-                kind = number();
-            } else {
-                next++;
-                kind = SYMBOLS.indexOf((char) b) >= 0 ? b : WRONG;
-            }
-        }
-
-        private int keyword() {
-            if (next - place > KEYWORD) {
-                return WRONG;
-            }
-            for (int k = 0; k * KEYWORD < KEYWORDS.length(); k++) {
-                if (isKeyword(k * KEYWORD)) {
-                    return PAY + k;
-                }
-            }
-            return WRONG;
-        }
-
-        private boolean isKeyword(int from) {
-            for (int i = 0; i < KEYWORD && from + i < KEYWORDS.length(); i++) {
-                int here = place + i < next ? tape.get(place + i) : ' ';
-                if (KEYWORDS.charAt(from + i) != here) {
-                    return false;
-                }
-            }
-            return true;
-        }
-
-        private int number() {
-            if (next - place > DIGITS) {
-                return WRONG;
-            }
-            value = 0;
-            for (int i = place; i < next; i++) {
-                value = value * 10 + tape.get(i) - '0';
-            }
-            return NUMBER;
         }
     }
 
@@ -1134,6 +1135,7 @@ public final class CommaOrphans {
         private final int[] longs = new int[PAGE];
         private final int[] facts = new int[ASKS];
         private final int[] stack = new int[STACK];
+        /* Where fewest signs are sought, the same pays of few places are asked for thousands of times. */
         private final long[] known = new long[CHANGED_PAGE * CELLS];
         private final int[] before = new int[CREW];
         private final int[] after = new int[CREW];
@@ -1162,7 +1164,7 @@ public final class CommaOrphans {
         }
 
         boolean isAble(int sign) {
-            return isSign(sign) && able[sign];
+            return sign >= 0 && sign < SIGNS && able[sign];
         }
 
         /** Counts the letters that can be printed of each word of a row; from is no place inside a word. */
@@ -1199,12 +1201,7 @@ public final class CommaOrphans {
                 return 1;
             }
             gatherFacts(row, i, sign);
-            return i < CHANGED_PAGE ? knownPay(i) : house.law.payFor(facts, stack);
-        }
-
-        /** Where fewest signs are sought the same pays are asked for thousands of times. */
-        private int knownPay(int i) {
-            int cell = i * CELLS + (facts[ASK_SIGN] + facts[ASK_LEFT]) % CELLS;
+            int cell = i * CELLS + (sign + facts[ASK_LEFT]) % CELLS;
             if (cell < 0 || cell >= known.length) {
                 return house.law.payFor(facts, stack);
             }
@@ -1257,8 +1254,8 @@ public final class CommaOrphans {
 
         private static int countAhead(Row row, int i, int sign) {
             int count = 0;
-            for (int j = 0; j < i; j++) {
-                if (row.get(j) == sign) {
+            for (int j = 0; j < i && j < row.places.length; j++) {
+                if (row.places[j] == sign) {
                     count++;
                 }
             }
@@ -1419,17 +1416,23 @@ public final class CommaOrphans {
             press.lookOver();
             row.take(house.page);
             weighNeeds();
+            listChoices();
             int lacking = countLacking();
             if (lacking == 0 && feedsAll()) {
                 answer[0] = 0;
                 return;
             }
-            listChoices();
-            if (lacking <= 1 && changesOne()) {
-                return;
+            for (int p = 0; p < row.length && lacking <= 1; p++) {
+                if (changesOne(p)) {
+                    return;
+                }
             }
-            if (lacking <= 2) {
-                changesTwo();
+            for (int p = 0; p < row.length && lacking <= 2; p++) {
+                for (int q = p + 1; q < row.length; q++) {
+                    if (changesBoth(p, q)) {
+                        return;
+                    }
+                }
             }
         }
 
@@ -1494,43 +1497,14 @@ public final class CommaOrphans {
             }
         }
 
-        private boolean changesOne() {
-            for (int p = 0; p < row.length && p < CHANGED_PAGE; p++) {
-                int stands = row.get(p);
-                for (int c = 0; c < choiceCounts[p]; c++) {
-                    row.put(p, choices[p * SIGNS + c]);
-                    if (countLacking() == 0 && feedsAll()) {
-                        answer[0] = 1;
-                        answer[1] = p;
-                        answer[2] = row.get(p);
-                        return true;
-                    }
-                }
-                row.put(p, stands);
-            }
-            return false;
-        }
-
-        private void changesTwo() {
-            for (int p = 0; p < row.length && p < CHANGED_PAGE; p++) {
-                for (int q = p + 1; q < row.length && q < CHANGED_PAGE; q++) {
-                    if (changesBoth(p, q)) {
-                        return;
-                    }
-                }
-            }
-        }
-
-        private boolean changesBoth(int p, int q) {
+        private boolean changesOne(int p) {
             int stands = row.get(p);
-            for (int c = 0; c < choiceCounts[p]; c++) {
+            for (int c = 0; c < choicesAt(p); c++) {
                 row.put(p, choices[p * SIGNS + c]);
-                if (countLacking() <= 1 && changesOther(q)) {
-                    answer[0] = 2;
+                if (countLacking() == 0 && feedsAll()) {
+                    answer[0] = 1;
                     answer[1] = p;
                     answer[2] = row.get(p);
-                    answer[3] = q;
-                    answer[4] = row.get(q);
                     return true;
                 }
             }
@@ -1538,16 +1512,31 @@ public final class CommaOrphans {
             return false;
         }
 
-        private boolean changesOther(int q) {
-            int stands = row.get(q);
-            for (int c = 0; c < choiceCounts[q]; c++) {
-                row.put(q, choices[q * SIGNS + c]);
-                if (countLacking() == 0 && feedsAll()) {
-                    return true;
+        private boolean changesBoth(int p, int q) {
+            int standsAtP = row.get(p);
+            int standsAtQ = row.get(q);
+            for (int c = 0; c < choicesAt(p); c++) {
+                row.put(p, choices[p * SIGNS + c]);
+                boolean hopeless = countLacking() > 1;
+                for (int d = 0; d < choicesAt(q) && !hopeless; d++) {
+                    row.put(q, choices[q * SIGNS + d]);
+                    if (countLacking() == 0 && feedsAll()) {
+                        answer[0] = 2;
+                        answer[1] = p;
+                        answer[2] = row.get(p);
+                        answer[3] = q;
+                        answer[4] = row.get(q);
+                        return true;
+                    }
                 }
+                row.put(q, standsAtQ);
             }
-            row.put(q, stands);
+            row.put(p, standsAtP);
             return false;
+        }
+
+        private int choicesAt(int place) {
+            return place >= 0 && place < CHANGED_PAGE ? choiceCounts[place] : 0;
         }
     }
 

@@ -1401,6 +1401,7 @@ public final class CommaOrphans {
         private final int[] signsNeeded = new int[CREW];
         private final int[] hands = new int[CREW];
         private final int[] earned = new int[CREW];
+        private int hungriest;
 
         Remedy(House house, Press press) {
             this.house = house;
@@ -1417,22 +1418,38 @@ public final class CommaOrphans {
             row.take(house.page);
             weighNeeds();
             listChoices();
-            int lacking = countLacking();
-            if (lacking == 0 && feedsAll()) {
+            if (feedsAll()) {
                 answer[0] = 0;
                 return;
             }
-            for (int p = 0; p < row.length && lacking <= 1; p++) {
-                if (changesOne(p)) {
+            for (int p = 0; p < row.length; p++) {
+                if (setsOne(p)) {
+                    tell(1, p, NONE);
                     return;
                 }
             }
-            for (int p = 0; p < row.length && lacking <= 2; p++) {
+            for (int p = 0; p < row.length; p++) {
+                int stands = row.get(p);
                 for (int q = p + 1; q < row.length; q++) {
-                    if (changesBoth(p, q)) {
-                        return;
+                    for (int c = 0; c < choicesAt(p); c++) {
+                        row.put(p, choices[p * SIGNS + c]);
+                        if (setsOne(q)) {
+                            tell(2, p, q);
+                            return;
+                        }
                     }
                 }
+                row.put(p, stands);
+            }
+        }
+
+        private void tell(int count, int p, int q) {
+            answer[0] = count;
+            answer[1] = p;
+            answer[2] = row.get(p);
+            if (q != NONE) {
+                answer[3] = q;
+                answer[4] = row.get(q);
             }
         }
 
@@ -1448,7 +1465,7 @@ public final class CommaOrphans {
             }
         }
 
-        /** How many signs more those who must eat need at least, were each paid the most: it saves trying rows. */
+        /** How many signs more those who must eat need at least, were each paid the most. */
         private int countLacking() {
             Arrays.fill(hands, 0);
             for (int i = 0; i < row.length; i++) {
@@ -1467,10 +1484,20 @@ public final class CommaOrphans {
             return lacking;
         }
 
+        private boolean isLacked(int sign) {
+            int who = press.isAble(sign) ? house.owner[sign] : NONE;
+            return who >= 0 && who < CREW && hands[who] < signsNeeded[who];
+        }
+
+        /** Who was left hungry by the row before is asked first, for he mostly is again. */
         private boolean feedsAll() {
+            if (press.earnsFrom(row, 0, hungriest) < least[hungriest]) {
+                return false;
+            }
             press.earnings(row, earned);
             for (int a = 0; a < CREW; a++) {
                 if (earned[a] < least[a]) {
+                    hungriest = a;
                     return false;
                 }
             }
@@ -1497,41 +1524,22 @@ public final class CommaOrphans {
             }
         }
 
-        private boolean changesOne(int p) {
-            int stands = row.get(p);
-            for (int c = 0; c < choicesAt(p); c++) {
-                row.put(p, choices[p * SIGNS + c]);
-                if (countLacking() == 0 && feedsAll()) {
-                    answer[0] = 1;
-                    answer[1] = p;
-                    answer[2] = row.get(p);
+        /** Sets a place otherwise, so that all eat by the row, or leaves it as it is; hopeless signs are not tried. */
+        private boolean setsOne(int place) {
+            int stands = row.get(place);
+            row.put(place, BLANK);
+            int lacking = countLacking();
+            for (int c = 0; c < choicesAt(place) && lacking <= 1; c++) {
+                int sign = choices[place * SIGNS + c];
+                if (lacking == 1 && !isLacked(sign)) {
+                    continue;
+                }
+                row.put(place, sign);
+                if (feedsAll()) {
                     return true;
                 }
             }
-            row.put(p, stands);
-            return false;
-        }
-
-        private boolean changesBoth(int p, int q) {
-            int standsAtP = row.get(p);
-            int standsAtQ = row.get(q);
-            for (int c = 0; c < choicesAt(p); c++) {
-                row.put(p, choices[p * SIGNS + c]);
-                boolean hopeless = countLacking() > 1;
-                for (int d = 0; d < choicesAt(q) && !hopeless; d++) {
-                    row.put(q, choices[q * SIGNS + d]);
-                    if (countLacking() == 0 && feedsAll()) {
-                        answer[0] = 2;
-                        answer[1] = p;
-                        answer[2] = row.get(p);
-                        answer[3] = q;
-                        answer[4] = row.get(q);
-                        return true;
-                    }
-                }
-                row.put(q, standsAtQ);
-            }
-            row.put(p, standsAtP);
+            row.put(place, stands);
             return false;
         }
 

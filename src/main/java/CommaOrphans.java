@@ -610,7 +610,7 @@ public final class CommaOrphans {
                     continue;
                 }
                 top--;
-                if (top < 1 || stack[top] > SURE) {
+                if (top < 1) {
                     return MOST_PAY;
                 }
                 long most = stack[top - 1];
@@ -1619,6 +1619,7 @@ public final class CommaOrphans {
             this.press = press;
         }
 
+        /** Who gets a sign that is not on the page gives up pay for nothing: both signs must be on it. */
         void seek() {
             known = true;
             Arrays.fill(answer, NONE);
@@ -1626,9 +1627,11 @@ public final class CommaOrphans {
             press.lookOver();
             press.earnings(house.page, earned);
             for (int a = 0; a < SIGNS; a++) {
-                boolean shown = house.page.holds(a);
+                if (!house.page.holds(a)) {
+                    continue;
+                }
                 for (int b = a + 1; b < SIGNS; b++) {
-                    if ((shown || house.page.holds(b)) && isGain(a, b)) {
+                    if (house.page.holds(b) && isGain(a, b)) {
                         count(a, b);
                     }
                 }

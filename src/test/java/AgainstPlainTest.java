@@ -3,7 +3,7 @@ import java.util.Random;
 
 /** Runs of calls drawn from fixed seeds: CommaOrphans must answer as the plainest telling of the document does. */
 public final class AgainstPlainTest {
-    private static final int RUNS = 700;
+    private static final int RUNS = 1500;
     private static final int CALLS = 480;
     private static final String SIGNS = "abcdefghijklmnopqrstuvwxyz,.;";
 
@@ -101,7 +101,20 @@ public final class AgainstPlainTest {
         same("apprentice", x.apprentice(purse, bread), y.apprentice(purse, bread));
     }
 
+    /** Any bytes, mostly near those that may stand; what is on the tape then goes ahead of what is told next. */
+    private String junk() {
+        StringBuilder row = new StringBuilder();
+        int length = upTo(random.nextInt(4) == 0 ? 400 : 30);
+        for (int i = 0; i < length; i++) {
+            row.append((char) (random.nextInt(4) == 0 ? upTo(255) : " \nab,.;()1<".charAt(upTo(10))));
+        }
+        return row.toString();
+    }
+
     private void tell() {
+        if (random.nextInt(25) == 0) {
+            feed(junk());
+        }
         switch (random.nextInt(4)) {
             case 0:
                 feed(random.nextInt(8) == 0 ? "" : law());

@@ -413,6 +413,11 @@ public final class CommaOrphans {
         return b >= 'a' && b <= 'z';
     }
 
+    /** In a text capitals are letters too, though no keyword has one. */
+    private static boolean isLetterOfText(int b) {
+        return isSmallLetter(b) || b >= 'A' && b <= 'Z';
+    }
+
     private static boolean isDigit(int b) {
         return b >= '0' && b <= '9';
     }
@@ -711,11 +716,11 @@ public final class CommaOrphans {
         }
 
         private int endOfToken(int at) {
-            boolean word = isSmallLetter(tape.get(at));
+            boolean word = isLetterOfText(tape.get(at));
             boolean number = isDigit(tape.get(at));
             int end = at + 1;
             while (end < tape.length
-                && (word && isSmallLetter(tape.get(end)) || number && isDigit(tape.get(end)))) {
+                && (word && isLetterOfText(tape.get(end)) || number && isDigit(tape.get(end)))) {
                 end++;
             }
             return end;
@@ -723,7 +728,7 @@ public final class CommaOrphans {
 
         private int kindOf(int at, int end) {
             int b = tape.get(at);
-            if (isSmallLetter(b)) {
+            if (isLetterOfText(b)) {
                 return kindOfWord(at, end);
             }
             if (!isDigit(b)) {

@@ -197,7 +197,7 @@ public final class AgainstPlainTest {
         }
         if (random.nextInt(5) == 0) {
             int at = upTo(text.length() - 1);
-            String odd = "(not )+-*/0;<=> ax9Pwhen";
+            String odd = "(not )+-*/0;<=> ax9PwhenAZ[@";
             int from = upTo(odd.length() - 1);
             text.replace(at, at + upTo(1), odd.substring(from, Math.min(odd.length(), from + 1 + upTo(2))));
         }

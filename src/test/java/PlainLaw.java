@@ -8,6 +8,8 @@ final class PlainLaw {
     private static final List<String> KEYWORDS = List.of("pay", "when", "or", "and", "not", "sign", "place",
         "long", "used", "vowel", "owner", "day", "left", "first");
 
+    private static final String LETTERS = "abcdefghijklmnopqrstuvwxyzABCDEFGHIJKLMNOPQRSTUVWXYZ";
+
     private static final class Stop extends RuntimeException {
         private static final long serialVersionUID = 1L;
         final int fault;
@@ -35,7 +37,7 @@ final class PlainLaw {
         String text = all.toString();
         for (int i = 0; i < text.length();) {
             int j = i + 1;
-            for (String kind : List.of("abcdefghijklmnopqrstuvwxyz", "0123456789")) {
+            for (String kind : List.of(LETTERS, "0123456789")) {
                 if (kind.indexOf(text.charAt(i)) >= 0) {
                     while (j < text.length() && kind.indexOf(text.charAt(j)) >= 0) {
                         j++;

@@ -631,7 +631,7 @@ public final class CommaOrphans {
 
         private int run(int from, int to, int[] facts, int[] stack) {
             int top = 0;
-            for (int i = Math.max(from, 0); i < to && i < code.length; i++) {
+            for (int i = from < 0 ? 0 : from; i < to && i < code.length; i++) {
                 int op = code[i];
                 if (op >= -ASKS) {
                     if (top >= stack.length) {

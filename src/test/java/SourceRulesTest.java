@@ -4,6 +4,7 @@ import java.lang.reflect.Method;
 import java.lang.reflect.Modifier;
 import java.nio.file.Files;
 import java.nio.file.Path;
+import java.util.ArrayList;
 import java.util.Arrays;
 import java.util.List;
 import java.util.Set;
@@ -14,6 +15,7 @@ import java.util.regex.Pattern;
 /** The rules of LANGUAGE.md that a program can see: words that may not stand, the face, sizes. */
 public final class SourceRulesTest {
     private static final Path SOURCE = Path.of("src/main/java/CommaOrphans.java");
+    private static final Path DOCUMENT = Path.of("../shared/DOC.md");
     private static final List<String> FORBIDDEN = List.of("\\bthrow\\b", "\\bthrows\\b", "\\btry\\b", "\\bcatch\\b",
         "\\bsynchronized\\b", "\\bassert\\b", "->", "::", "\\bpackage\\b", "\\bprotected\\b", "Exact\\b",
         "System\\.(?!arraycopy\\b)", "\\bThread\\b", "\\bRandom\\b", "\\bhashCode\\b", "\\btoString\\b",
@@ -29,6 +31,7 @@ public final class SourceRulesTest {
         test.words(source);
         test.methods(source);
         test.face();
+        test.faceAsTold(Files.readString(DOCUMENT));
         test.check.close();
     }
 
@@ -79,6 +82,26 @@ public final class SourceRulesTest {
                 check.due(inside + " has " + m.getName(), seen.contains(m.getName()), false);
             }
         }
+    }
+
+    /** The document tells the face as Java: each line of it must be there, and no other public member. */
+    private void faceAsTold(String document) {
+        Set<String> told = new TreeSet<>();
+        Matcher m = Pattern.compile("(?m)^    public ([^;]+);$").matcher(document);
+        while (m.find()) {
+            told.add(m.group(1).replaceAll("(int|boolean) \\w+(?=[,)])", "$1").replace(", ", ",").replaceAll(" = .*", ""));
+        }
+        Set<String> seen = new TreeSet<>();
+        List<Member> members = new ArrayList<>(List.of(CommaOrphans.class.getDeclaredMethods()));
+        members.addAll(List.of(CommaOrphans.class.getDeclaredConstructors()));
+        members.addAll(List.of(CommaOrphans.class.getDeclaredFields()));
+        for (Member member : members) {
+            if (Modifier.isPublic(member.getModifiers())) {
+                seen.add(member.toString().replace("public ", "").replaceAll("CommaOrphans\\.(?=\\w)", ""));
+            }
+        }
+        check.due("as many lines as the face has", told.size(), 29);
+        check.due("the document tells " + told + ", the class has " + seen, told.equals(seen), true);
     }
 
     private void seePrivate(Member m) {

@@ -77,6 +77,19 @@ final class TapeEdges extends EdgeGroup {
         feedA(x);
         due("none of twenty", x.end(0), true);
         due("an empty tape", x.page(), 0);
+        cut("pay 1    ", 5, 5);
+        cut("pay sign;", 7, 4);
+        cut("pay 123456;", 8, 8);
+        cut("pay 1;pay 2;", 10, 10);
+    }
+
+    /** What was behind the end of a text does not stand in it. */
+    private void cut(String text, int n, int place) {
+        CommaOrphans x = new CommaOrphans();
+        Check.feed(x, text);
+        due("the first " + n + " of '" + text + "'", x.end(n), true);
+        due("are no law", x.text(), NONE);
+        due("the fault's place", x.fault(1), place);
     }
 
     private void endRefused() {

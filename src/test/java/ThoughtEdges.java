@@ -6,7 +6,7 @@ final class ThoughtEdges extends EdgeGroup {
     private static final String[] LAWS = {"", "pay place*2+1;", "pay sign/3;", "pay long*long;", "pay 9-used*3;",
         "pay vowel*7+1;", "pay owner*4+2;", "pay day*3;", "pay left/4;", "pay first*6+1;", "pay 2*3+4/2-1;",
         "pay 12 when left=0 and first=0;pay 3*first when sign>1;pay 4;", "pay 6 when used=0;pay 0;",
-        "pay 5 when owner=0 and sign>1;pay 5 when owner=1 and sign<2;pay 1;", "pay 9 when not long=2;"};
+        "pay 5 when owner=0 and sign>1;pay 5 when owner=1 and sign<2;pay 1;", "pay 9 when not long=2;", "pay 0;", "pay 0-sign;"};
 
     ThoughtEdges(Edges edges) {
         super(edges);

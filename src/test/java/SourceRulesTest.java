@@ -70,6 +70,10 @@ public final class SourceRulesTest {
             }
             seePrivate(m);
         }
+        for (Method m : CommaOrphans.class.getDeclaredMethods()) {
+            boolean hidden = !Modifier.isPublic(m.getModifiers());
+            check.due(m + " is private and named like a public one", hidden && seen.contains(m.getName()), false);
+        }
         check.due("the face is " + seen, seen.equals(new TreeSet<>(Arrays.asList(FACE.split(" ")))), true);
         Arrays.stream(CommaOrphans.class.getDeclaredFields()).filter(f -> !f.getName().equals("NONE"))
             .forEach(this::seePrivate);
